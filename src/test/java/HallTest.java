@@ -102,6 +102,11 @@ public final class HallTest {
         fault("h0 0;l0 0 x", -12, 8);
         fault("h0 0;l2 20 16;", -12, 11);
         fault("h0 0;j3 31;", -12, 8);
+        fault("h0 4;", -12, 3);
+        fault("h0 0;l3 1 0;", -12, 6);
+        fault("h0 0;l0 21 0;", -12, 8);
+        fault("h0 0;j4 1;", -12, 6);
+        fault("h0 0;j0 0;", -12, 8);
         fault("h0 0;h9 9;", -13, 5);
         fault("h0 0; h", -13, 6);
         fault("h0 0;l0 1 0;l0 1 0;l0 1 0;l0 1 0;l0 1 0;l0 1 0;l", -13, 47);

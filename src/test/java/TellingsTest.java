@@ -119,6 +119,10 @@ public final class TellingsTest {
         for (int i = 1; i <= 45; i++) x.night(20);
         DUE.is("900 nights", x.told(6), 900);
         DUE.is("on to 920", x.night(20), 920);
+        x.undo(19);
+        DUE.is("901 are above 900", x.night(1), LastLaugh.FULL);
+        x.undo(1);
+        DUE.is("900 are not", x.night(20), 920);
         DUE.is("above 900", x.night(1), LastLaugh.FULL);
         DUE.is("outside comes ahead of full", x.night(0), LastLaugh.OUTSIDE);
         DUE.is("920 yet", x.told(6), 920);
