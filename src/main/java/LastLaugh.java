@@ -737,7 +737,9 @@ public final class LastLaugh {
         private boolean isAloneAfter(int in, int l, int depth, int many) {
             if (depth >= many || depth >= LONGEST_ROW) return in == 1 << l;
             for (int j = 0; j < hall.jokes; j++) {
-                long triedOut = 0;
+                // Nobody out counts as tried: told once more the joke is weaker for each one than it was then,
+                // and no better understood, so a row without such a telling is as good, and shorter.
+                long triedOut = 1;
                 for (int at = 0; at < hall.lords; at++) {
                     if (at == l || (in >> at & 1) == 0) continue;
                     int out = outBy(in, l, j, at);

@@ -2,7 +2,7 @@ import java.util.Random;
 
 /** Runs of drawn calls on LastLaugh and on the Model: each answer, and all that can be asked of the state, is the same. */
 public final class ModelTest {
-    private static final int RUNS = 700, CALLS = 180;
+    private static final int RUNS = 2000, CALLS = 180;
 
     private static final Due DUE = new Due();
     private static Random random;
