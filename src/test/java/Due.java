@@ -1,20 +1,31 @@
+import java.util.HashSet;
+import java.util.Set;
+
 /** Counts the answers that are not as due, and feeds texts. Shared by the tests; no test of its own. */
 final class Due {
     private int wrong = 0;
     private int asked = 0;
+    private final Set<String> sentences = new HashSet<>();
+    private String told = "";
+
+    /** What is asked from here on holds a sentence of the document, with the number of its promise beside it. */
+    void sentence(int promise, String words) {
+        told = "promise " + promise + ", \"" + words + "\": ";
+        sentences.add(told);
+    }
 
     void is(String call, long got, long want) {
         asked++;
         if (got == want) return;
         wrong++;
-        if (wrong <= 40) System.out.println(call + " answered " + got + ", due is " + want);
+        if (wrong <= 40) System.out.println(told + call + " answered " + got + ", due is " + want);
     }
 
     void holds(String what, boolean so) {
         asked++;
         if (so) return;
         wrong++;
-        System.out.println("not so: " + what);
+        System.out.println(told + "not so: " + what);
     }
 
     boolean anyWrong() {
@@ -22,7 +33,8 @@ final class Due {
     }
 
     void end(String test) {
-        System.out.println(test + ": " + asked + " answers, " + wrong + " not as due");
+        String of = sentences.isEmpty() ? "" : sentences.size() + " sentences, ";
+        System.out.println(test + ": " + of + asked + " answers, " + wrong + " not as due");
         if (wrong != 0) System.exit(1);
     }
 
