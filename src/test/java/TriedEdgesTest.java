@@ -213,6 +213,8 @@ public final class TriedEdgesTest {
     private static void aloneByLooksInTheHall() {
         DUE.sentence(13, "A LORD IN THE HALL TELLS a JOKE and LOOKS at another one IN THE HALL");
         row(oneIsOut(), 0, 12);
+        // A look at lord 0 has him out with lord 1: then nobody is left with whom lord 2 would understand joke 1.
+        row(Due.hall("h2 0;l0 8 3;l1 5 1;l2 16 2;l0 20 0;j0 10;j1 16;"), 3, 1, 12);
         // The first lord goes first, and alone.
         row(Due.hall("h0 0;l0 10 15;l1 20 0;l2 10 15;j0 10;j1 10;"), 1, 0, 12);
         row(Due.hall("h0 0;l0 10 15;l1 20 0;l2 10 15;j0 10;j1 10;j2 10;"), 1, 0, 12);
