@@ -18,6 +18,12 @@ public final class FaceTest {
         "night(int)", "sads(int, int)", "safe()", "see(int, int, boolean)", "seed(int)", "sure(int, int)", "tastes(int)",
         "tear()", "tell(int, int, int)", "told(int)", "toldBy(int, int, int)", "undo(int)", "wired(int)", "write(int, int)"};
 
+    /** The document's headings, each with the calls that it stands ahead of. */
+    private static final String[] HEADINGS = {
+        "the hall: feed, hall, fault, told, lord, joke", "tellings: tell, night, drift, undo",
+        "tried: falls, alone, duel, safe, draws, cover, toldBy, sure, wired",
+        "what was seen: see, tastes, sads, write, judge, tear", "images: seed, keep, goBack"};
+
     public static void main(String[] args) throws Exception {
         constants();
         members();
@@ -81,7 +87,21 @@ public final class FaceTest {
             Matcher found = Pattern.compile(whole).matcher(code);
             DUE.holds("the source has no " + word, !found.find());
         }
+        headings(text);
         longMethods(text);
+    }
+
+    private static void headings(String text) {
+        StringBuilder found = new StringBuilder();
+        Matcher line = Pattern.compile("(?m)^    (?:// ---- (.*)|public int (\\w+)\\(.*)$").matcher(text);
+        while (line.find()) {
+            boolean first = found.length() == 0 || found.charAt(found.length() - 1) == ':';
+            if (line.group(2) != null) found.append(first ? " " : ", ").append(line.group(2));
+            else found.append(found.length() == 0 ? "" : "\n").append(line.group(1)).append(':');
+        }
+        // Behind the last of them the source's own helpers stand, under a heading without a call of the face.
+        String due = String.join("\n", HEADINGS);
+        DUE.holds("each heading stands ahead of its calls: " + found, (found + "\n").startsWith(due + "\n"));
     }
 
     private static void longMethods(String text) {

@@ -5,30 +5,33 @@ import java.util.Random;
  * against the Model's search through everything.
  */
 public final class SearchesTest {
-    private static final int HALLS = 1500;
+    private static final int HALLS = 1500, FULL_HALLS = 150;
 
     private static final Due DUE = new Due();
 
     public static void main(String[] args) {
-        for (int h = 0; h < HALLS && !DUE.anyWrong(); h++) inHall(new Random(h));
+        for (int h = 0; h < HALLS && !DUE.anyWrong(); h++) inHall(new Random(h), false);
+        for (int h = 0; h < FULL_HALLS && !DUE.anyWrong(); h++) inHall(new Random(-1 - h), true);
         DUE.end("SearchesTest");
     }
 
-    private static String text(Random random) {
+    /** Small halls for the most part, as searching through everything is slow; full ones have six of each. */
+    private static String text(Random random, boolean full) {
         StringBuilder s = new StringBuilder("h").append(random.nextInt(4)).append(' ').append(random.nextInt(3)).append(';');
-        int lords = 3 + random.nextInt(3);
-        int jokes = 2 + random.nextInt(lords > 4 ? 1 : 2);
+        int lords = full ? 6 : 3 + random.nextInt(3);
+        int jokes = full ? 6 : 2 + random.nextInt(lords > 4 ? 1 : 2);
+        int kinds = full ? 4 : 2;
         int most = 6 + random.nextInt(15);
         for (int l = 0; l < lords; l++) {
             s.append('l').append(random.nextInt(3)).append(' ').append(2 + random.nextInt(most - 1)).append(' ');
             s.append(random.nextInt(16)).append(';');
         }
-        for (int j = 0; j < jokes; j++) s.append('j').append(random.nextInt(2)).append(' ').append(6 + random.nextInt(25)).append(';');
+        for (int j = 0; j < jokes; j++) s.append('j').append(random.nextInt(kinds)).append(' ').append(6 + random.nextInt(25)).append(';');
         return s.toString();
     }
 
-    private static void inHall(Random random) {
-        String text = text(random);
+    private static void inHall(Random random, boolean full) {
+        String text = text(random, full);
         LastLaugh x = Due.hall(text);
         Model m = new Model();
         for (int i = 0; i < text.length(); i++) m.feed(text.charAt(i));
